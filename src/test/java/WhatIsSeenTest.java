@@ -6,11 +6,15 @@ public final class WhatIsSeenTest {
 
   public static void main(String[] args) {
     promise14Pull();
+    promise14PullOfEachMove();
     promise14PullOfKinds();
     promise15Heed();
     promise16Can();
     promise17Odds();
+    promise17OddsOfEachSlip();
     promise18Sees();
+    promise18SeesFromFarRight();
+    promise18SeesOfChildren();
     due.end();
   }
 
@@ -44,6 +48,19 @@ public final class WhatIsSeenTest {
         {0, 0, 0, 10}, {LEAST, 0, 0, 1}, {MOST, 0, 0, 1}, {0, LEAST, 0, 1}, {0, MOST, 0, 1}, {0, 0, LEAST, 1},
         {0, 0, MOST, 1}, {0, 0, 0, LEAST}, {0, 0, 0, MOST}};
     for (int[] w : wrong) due.is("pull: wrong", x.pull(w[0], w[1], w[2], w[3]), BAD);
+  }
+
+  private static void promise14PullOfEachMove() {
+    CoinNotThere x = new CoinNotThere();
+    x.watcher(0, 0);
+    for (int at = 0; at < 4; at++) {
+      for (int size = 1; size <= 9; size++) {
+        x.act(3, 0, at, size);
+        int[] want = {1, 1, 1, 1};
+        want[at] += size;
+        pulls(x, "MOVE " + at + size, 0, 3, 1, want);
+      }
+    }
   }
 
   private static void promise14PullOfKinds() {
@@ -143,6 +160,49 @@ public final class WhatIsSeenTest {
         {0, 0, 1, 2}, {LEAST, 0, 1, 0}, {MOST, 0, 1, 0}, {0, LEAST, 1, 0}, {0, MOST, 1, 0}, {0, 0, LEAST, 0},
         {0, 0, MOST, 0}, {0, 0, 1, LEAST}, {0, 0, 1, MOST}};
     for (int[] w : wrong) due.is("odds: wrong", x.odds(w[0], w[1], w[2], w[3]), BAD);
+  }
+
+  /** One in front who always can see, eyes drawn to the SLIP by 10 of 13. */
+  private static void promise17OddsOfEachSlip() {
+    CoinNotThere x = new CoinNotThere();
+    x.watcher(1, 0);
+    int[] thousandths = {85, 170, 256, 341, 427, 512, 623, 735, 846};
+    for (int at = 0; at < 4; at++) {
+      for (int size = 1; size <= 9; size++) {
+        x.act(3, 0, at, 9);
+        x.act(3, 1, at, size);
+        long above = x.odds(0, 3, 1, 0), below = x.odds(0, 3, 1, 1);
+        due.is("odds: SLIP " + at + size, 1000 * above / below, thousandths[size - 1]);
+        due.is("odds: SLIP " + at + size + " exactly", 117 * above, below * (10 * size + 3 * Math.max(0, size - 6)));
+        due.is("sees: SLIP " + at + size, x.sees(3, 1), thousandths[size - 1]);
+        due.is("pull: SLIP " + at + size, x.pull(0, 3, at, 5), 10 + 2 * 4);
+        x.stand(3);
+        due.is("sees: SLIP " + at + size + " from far left", x.sees(3, 1), at == 1 ? 0 : thousandths[size - 1]);
+        x.stand(1);
+      }
+    }
+  }
+
+  private static void promise18SeesFromFarRight() {
+    CoinNotThere x = new CoinNotThere();
+    x.watcher(3, 0);
+    for (int at = 0; at < 4; at++) {
+      for (int size = 1; size <= 9; size++) {
+        x.act(8, 1, at, size);
+        due.is("sees: whether SLIP " + at + size + " is seen", x.sees(8, 1) > 0 ? 1 : 0, at == 0 ? 0 : 1);
+      }
+    }
+  }
+
+  private static void promise18SeesOfChildren() {
+    CoinNotThere x = new CoinNotThere();
+    x.watcher(1, 2);
+    Due.tell(x, "2:n0x04");
+    due.is("sees: a CHILD hears no NAME", x.sees(2, 1), 111);
+    x.watcher(2, 0);
+    due.is("sees: one who hears it: 7 4 4 by 567", x.sees(2, 1), 111 + 197);
+    x.cue(1, 2, 1);
+    due.is("sees: behind a JOKE: 3 by 9, 4; 1 by 81, 16 by 7", x.sees(-1, 1), 37 + 28);
   }
 
   private static void promise18Sees() {
