@@ -106,11 +106,17 @@ final class Digest {
     }
   }
 
+  /** What is bought against a SLIP of each BEAT alone. */
   private void costs(CoinNotThere x) {
     if (x.count(4) == 0) return;
     oneWhoSeesCovers(x);
-    for (int beat = 0; beat < 16; beat++) x.act(beat, 1, 0, 9);
-    for (int coin : new int[] {0, 9, 30, 60, 99, 198, 999}) found.add(x.bought(coin, 2));
+    for (int beat = 0; beat < 16; beat++) {
+      for (int place = 0; place < 4; place += 3) {
+        x.act(beat, 1, place, 9);
+        for (int coin : new int[] {0, 30, 60, 98, 999}) found.add(x.bought(coin, 2));
+      }
+      x.act(beat, 1, 0, 0);
+    }
   }
 
   private void tape() {

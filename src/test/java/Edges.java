@@ -102,8 +102,13 @@ final class Edges {
   /** The like, with 8 WATCHERS, 8 COVERS, 24 POINTS and a TAPE of 100 bytes. */
   private static void crowd(CoinNotThere x) {
     rich(x);
+    more(x);
+  }
+
+  /** What CROWDED has more than RICH. */
+  static void more(CoinNotThere x) {
     for (int seat = 8; seat < 11; seat++) x.watcher(seat, seat - 8);
-    for (int c = 4; c < 8; c++) x.cover(c, c - 4, 0, 11 * c);
+    for (int c = 4; c < 8; c++) x.cover(c, (c + 1) % 4, 0, 11 * c);
     for (int p = 3; p < 24; p++) x.point(p % 16, p % 3);
     Due.type(x, " ".repeat(92));
     x.sheet(3, 2, 16);

@@ -9,6 +9,8 @@ public final class RoutineAndHouseEdgesTest {
     p1EmptyHouse();
     p1NothingTold();
     p1SheetsHoldNothing();
+    p1EachForItself();
+    the512thCall();
     p2Ranges();
     p2WhatItWas();
     p2SizeNone();
@@ -95,6 +97,29 @@ public final class RoutineAndHouseEdgesTest {
       edges.changesNothing("new: item", NEW, x -> x.item(s, 0, 0, 0), -11);
       edges.changesNothing("new: eyes", NEW, x -> x.eyes(0, s, 0, 0, 1), -11);
       edges.changesNothing("new: copy", NEW, x -> x.copy(s, 0, s, 0, 0), -11);
+    }
+  }
+
+  /** "A new object": what is told to another one is not told to it. */
+  private static void p1EachForItself() {
+    edges.alike("new: beside another one", NEW, x -> CROWDED.of(new CoinNotThere()));
+    edges.alike("new: behind another one", x -> RICH.of(x), x -> {
+      CROWDED.of(new CoinNotThere());
+      RICH.of(x);
+      CROWDED.of(new CoinNotThere());
+    });
+  }
+
+  /** "An object is used for at most 512 calls after it has been made": the 512th is still answered as the first. */
+  private static void the512thCall() {
+    CoinNotThere stands = new CoinNotThere(), types = new CoinNotThere(), comes = new CoinNotThere(), kept = new CoinNotThere();
+    for (int call = 1; call <= 512; call++) {
+      edges.is("stand: call " + call, stands.stand(call % 4), call == 1 ? 1 : (call - 1) % 4);
+      edges.is("type: call " + call, types.type(0x2020202020202020L, 8), call <= 12 ? 8 * call : FULL);
+      int inHouse = call % 9;
+      edges.is("watcher, leave: call " + call, inHouse == 0 ? comes.watcher(0, 0) : inHouse == 8 ? comes.leave(0) : comes.watcher(0, 1),
+          inHouse == 8 ? 0 : call == 1 || inHouse == 0 ? 0 : NOT);
+      edges.is("image, restore: call " + call, call % 2 == 0 ? kept.restore() : kept.image(), 1);
     }
   }
 

@@ -35,6 +35,8 @@ public final class WhatIsSeenEdgesTest {
     p17ElsewhereAboveSix();
     p17LowestTerms();
     p17NotAtAll();
+    p17WhoseSeatCanSee();
+    p17HeedOfEachKind();
     p18Ranges();
     p18ThereIsNone();
     p18BadAheadOfNot();
@@ -471,6 +473,45 @@ public final class WhatIsSeenEdgesTest {
     y.stand(3);
     y.act(15, 1, 0, 9);
     odds("THE RIGHT is not hidden there", y, 15, 1, 5, 18);
+  }
+
+  /** "A SLIP is SEEN by a WATCHER, whose SEAT can see its PLACE": each SEAT, PLACE and SIZE from before each COLUMN. */
+  private static void p17WhoseSeatCanSee() {
+    int[][] hidden = {{0b1100, 0b1000, 0, 0}, {0, 0, 0b0001, 0b0011}, {0, 0, 0, 0}, {0, 0, 0, 0}};
+    for (int seat = 0; seat < 12; seat++) {
+      for (int place = 0; place < 4; place++) {
+        CoinNotThere x = one(seat, PLAIN);
+        for (int stands = 0; stands < 4; stands++) {
+          x.stand(stands);
+          boolean can = (hidden[place][stands] >> seat % 4 & 1) == 0;
+          for (int size = 1; size < 10; size++) {
+            x.act(5, 1, place, size);
+            String of = "SLIP " + place + size + " from SEAT " + seat + ", he STANDS before " + stands;
+            edges.is("odds: " + of, x.odds(0, 5, 1, 0) > 0 ? 1 : 0, can ? 1 : 0);
+            edges.is("sees: " + of, x.sees(5, 1) > 0 ? 1 : 0, can ? 1 : 0);
+          }
+        }
+      }
+    }
+  }
+
+  /** "by HEED times s by 81": HEED of that one, 2 less where he NAMES, but of a CHILD; NAME 0 and DOUBT 0 draw nobody. */
+  private static void p17HeedOfEachKind() {
+    for (int kind = 0; kind < 4; kind++) {
+      CoinNotThere x = one(0, kind);
+      x.doubt(0, 0);
+      x.habit(1, 0);
+      Due.tell(x, "5:n3x24");
+      odds("he NAMES, KIND " + kind, x, 5, 1, kind == CHILD ? 1 : 7, kind == CHILD ? 9 : 81);
+      edges.is("sees: he NAMES, KIND " + kind, x.sees(5, 1), kind == CHILD ? 111 : 86);
+      x.habit(2, 5);
+      x.cue(4, 2, 1);
+      odds("he NAMES behind a JOKE, BACK 5, KIND " + kind, x, 5, 1, kind == CHILD ? 5 : 1, kind == CHILD ? 81 : 27);
+      edges.is("sees: he NAMES behind a JOKE, BACK 5, KIND " + kind, x.sees(5, 1), kind == CHILD ? 61 : 37);
+      x.habit(2, 2);
+      odds("he NAMES behind a JOKE, BACK 2, KIND " + kind, x, 5, 1, kind == CHILD ? 2 : 0, kind == CHILD ? 81 : 1);
+      edges.is("sees: he NAMES behind a JOKE, BACK 2, KIND " + kind, x.sees(5, 1), kind == CHILD ? 24 : 0);
+    }
   }
 
   /** "SEES of the SLIP of a BEAT; of the routine (-1); the k-th time": -1 .. 15, "k 1 .. 9". */

@@ -594,6 +594,10 @@ public final class WhatWouldBeEdgesTest {
       x.point(15, 0);
       fits("the least that fits", x, 0, 1);
     }
+    CoinNotThere there = new CoinNotThere();
+    there.cue(0, 0, 3);
+    there.point(0, 3);
+    fits("where he LOOKS, by each LOOK alike", there, 0, 1);
     CoinNotThere none = new CoinNotThere();
     none.cue(0, 0, 3);
     none.point(0, 1);
@@ -631,6 +635,17 @@ public final class WhatWouldBeEdgesTest {
     none.act(0, 1, 0, 9);
     none.habit(3, 9);
     fits("it is the first time", none, 9, 1);
+    for (int at = 0; at < 24; at++) {
+      CoinNotThere x = new CoinNotThere();
+      for (int i = 0; i < 24; i++) x.point(i == at ? 15 : 1, i == at ? 3 : 2);
+      fits("all 24", x, 0, 24);
+      x.act(15, 0, 2, 1);
+      fits("all but POINT " + at, x, 0, 23);
+      x.act(15, 0, 3, 1);
+      fits("all 24 again", x, 0, 24);
+      x.act(1, 0, 0, 1);
+      fits("POINT " + at + " alone", x, 0, 1);
+    }
     edges.answers("fits: all 24", x -> { for (int i = 0; i < 24; i++) x.point(i % 16, i % 4); }, x -> x.fits(1), 24);
     edges.answers("fits: all 24", x -> { for (int i = 0; i < 24; i++) x.point(i % 16, i % 4); }, x -> x.fits(0), 0);
   }
@@ -696,18 +711,9 @@ public final class WhatWouldBeEdgesTest {
     edges.answers("image: of nothing", NEW, x -> x.image(), 1);
     edges.answers("image: again", RICH, x -> x.image(), 1);
     edges.alike("image: of nothing at all", x -> x.image(), x -> { x.image(); Due.seat(x, "0p"); x.act(0, 1, 0, 9); x.point(0, 0); x.restore(); });
-    edges.alike("image: the later one", x -> { CROWDED.of(x); x.image(); }, x -> { RICH.of(x); x.image(); x.restore(); moreOfAll(x); x.image(); });
+    edges.alike("image: the later one", x -> { CROWDED.of(x); x.image(); }, x -> { RICH.of(x); x.image(); x.restore(); Edges.more(x); x.image(); });
     edges.alike("image: alone changes nothing but itself", x -> { CROWDED.of(x); x.image(); },
         x -> { CROWDED.of(x); x.image(); x.image(); x.image(); });
-  }
-
-  /** What CROWDED has more than RICH. */
-  private static void moreOfAll(CoinNotThere x) {
-    for (int seat = 8; seat < 11; seat++) x.watcher(seat, seat - 8);
-    for (int c = 4; c < 8; c++) x.cover(c, c - 4, 0, 11 * c);
-    for (int p = 3; p < 24; p++) x.point(p % 16, p % 3);
-    Due.type(x, " ".repeat(92));
-    x.sheet(3, 2, 16);
   }
 
   /** "NONE: there is none". */
@@ -744,6 +750,16 @@ public final class WhatWouldBeEdgesTest {
         for (int p = 0; p < 24; p++) x.point(0, 0);
         x.restore();
       }
+    });
+    edges.alike("restore: from as many others", kept, x -> {
+      kept.of(x);
+      x.clear();
+      for (int c = 0; c < 8; c++) x.cover(9, 2, 3, 55);
+      for (int p = 0; p < 24; p++) x.point(9, 3);
+      for (int w = 0; w < 8; w++) x.leave(0);
+      for (int w = 0; w < 8; w++) x.watcher(2 + w, 1);
+      for (int w = 0; w < 8; w++) x.doubt(w, 1);
+      x.restore();
     });
     edges.alike("restore: SHEETS and THE TAPE stay", x -> { little.of(x); x.sheet(0, 2, 3); x.item(0, 2, 1, 2); Due.type(x, "0:j"); },
         x -> { little.of(x); x.sheet(0, 2, 3); x.item(0, 2, 1, 2); Due.type(x, "0:j"); x.restore(); });
